@@ -452,7 +452,7 @@ public final class Reelrescue {
         final int[] codes = new int[MOST_REEL_FRAMES];
         final long[] frames = new long[MOST_REEL_FRAMES];
         final boolean[] spliced = new boolean[MOST_REEL_FRAMES];
-        // By code: asked for many codes and reels at once, so it is not searched for each time.
+        // By code: many codes of many reels are asked for at once, so they are not searched for each time.
         final int[] firstPlaces = new int[LAST_CODE + 1];
         final boolean[] splicedCodes = new boolean[LAST_CODE + 1];
 
@@ -585,7 +585,7 @@ public final class Reelrescue {
             mostPairs(first, second, tolerance);
             int i = first.frameCount;
             int j = second.frameCount;
-            // Frames behind the place are walked off; then i stays ahead of it.
+            // When i has come down to the place, its frame has been left.
             while (i > place && j > 0) {
                 // Pairing the last frames, where they can be, never leaves fewer pairs.
                 if (canPair(first, i - 1, second, j - 1, tolerance)) {
@@ -849,7 +849,7 @@ public final class Reelrescue {
             return true;
         }
 
-        // Changes are taken back from the top alone, so one below the top or taken back is never there.
+        // A change that is not on top was taken back, or has a later one of its frame above it.
         boolean isOnTop(int change) {
             return frames[changes.places[change]].topChange == change;
         }
