@@ -37,7 +37,7 @@ final class Check {
         throwsJust(what, IllegalStateException.class, call);
     }
 
-    private void throwsJust(String what, Class<? extends RuntimeException> due, Call call) {
+    void throwsJust(String what, Class<? extends RuntimeException> due, Call call) {
         checked++;
         try {
             call.run();
